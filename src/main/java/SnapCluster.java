@@ -373,6 +373,11 @@ public final class SnapCluster {
         return key >= 0 && key < KEYS;
     }
 
+    /** A set of small numbers has bit k for number k. */
+    private static boolean isIn(int number, int set) {
+        return (set >> number & 1) == 1;
+    }
+
     private Session sessionNumber(int session) {
         return session >= 0 && session < SESSIONS ? sessions[session] : null;
     }
@@ -522,7 +527,7 @@ public final class SnapCluster {
             int writes = in.takeTwo();
             int[] values = new int[KEYS];
             for (int key = 0; key < KEYS; key++) {
-                if ((writes >> key & 1) == 1) {
+                if (isIn(key, writes)) {
                     values[key] = in.takeFour();
                 }
             }
@@ -536,14 +541,10 @@ public final class SnapCluster {
             out.putTwo(reads);
             out.putTwo(writes);
             for (int key = 0; key < KEYS; key++) {
-                if (writesKey(key)) {
+                if (isIn(key, writes)) {
                     out.putFour(values[key]);
                 }
             }
-        }
-
-        boolean writesKey(int key) {
-            return (writes >> key & 1) == 1;
         }
 
         boolean isLike(Request other) {
@@ -663,7 +664,7 @@ public final class SnapCluster {
         private void writeValues(Request request, int wrote) {
             int row = rowOf(index);
             for (int key = 0; key < KEYS; key++) {
-                if ((wrote >> key & 1) == 1) {
+                if (isIn(key, wrote)) {
                     history[row + key] = request.values[key];
                 }
             }
@@ -769,7 +770,6 @@ public final class SnapCluster {
         void startImage() {
             image.clear();
             imageRecords = 0;
-            imageUsed = 0;
         }
 
         void addRecord(Bytes payload) {
@@ -1144,7 +1144,7 @@ public final class SnapCluster {
         }
 
         int read(int key, Store store) {
-            if ((writes >> key & 1) == 1) {
+            if (isIn(key, writes)) {
                 return values[key];
             }
             reads |= 1 << key;
@@ -1338,7 +1338,7 @@ public final class SnapCluster {
         }
 
         boolean hasAnswer(int replica) {
-            return (answered >> replica & 1) == 1;
+            return isIn(replica, answered);
         }
 
         /** True if more than half have answered with this one. */
