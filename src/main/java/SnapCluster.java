@@ -1202,15 +1202,16 @@ public final class SnapCluster {
 
         /** Does nothing if there is no room, or one like it waits already. */
         void add(Request request) {
+            if (request == null || count >= MOST_WAITING) {
+                return;
+            }
             for (int i = 0; i < count; i++) {
                 if (row[i].isLike(request)) {
                     return;
                 }
             }
-            if (count < MOST_WAITING) {
-                row[count] = request;
-                count++;
-            }
+            row[count] = request;
+            count++;
         }
 
         Request first() {
