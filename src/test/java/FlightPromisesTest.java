@@ -19,8 +19,8 @@ public final class FlightPromisesTest {
         P.end("FlightPromisesTest");
     }
 
-    private static SnapCluster asking() {
-        SnapCluster x = new SnapCluster(3, 1, 1, 2);
+    private static Cluster asking() {
+        Cluster x = new Cluster(3, 1, 1, 2);
         for (int r = 0; r < 3; r++) {
             Probe.tick(x, r, 2);
         }
@@ -28,7 +28,7 @@ public final class FlightPromisesTest {
     }
 
     private static void promise10() {
-        SnapCluster x = asking();
+        Cluster x = asking();
         P.due("10: frame -1", x.loseAt(-1), false);
         P.due("10: frame 3", x.loseAt(3), false);
         P.due("10: frame 1", x.loseAt(1), true);
@@ -42,7 +42,7 @@ public final class FlightPromisesTest {
     }
 
     private static void promise11() {
-        SnapCluster x = asking();
+        Cluster x = asking();
         P.due("11: frame -1", x.doubleAt(-1), false);
         P.due("11: frame 3", x.doubleAt(3), false);
         x.spoilAt(1, 3, 2);
@@ -60,7 +60,7 @@ public final class FlightPromisesTest {
     }
 
     private static void promise12() {
-        SnapCluster x = asking();
+        Cluster x = asking();
         P.due("12: frame -1", x.spoilAt(-1, 0, 0), false);
         P.due("12: frame 3", x.spoilAt(3, 0, 0), false);
         P.due("12: byte -1", x.spoilAt(0, -1, 0), false);
@@ -85,7 +85,7 @@ public final class FlightPromisesTest {
     }
 
     private static void twoHundredFrames() {
-        SnapCluster x = asking();
+        Cluster x = asking();
         for (int i = 3; i < 199; i++) {
             x.doubleAt(0);
         }
@@ -111,7 +111,7 @@ public final class FlightPromisesTest {
     }
 
     private static void promise18() {
-        SnapCluster x = asking();
+        Cluster x = asking();
         byte[] ask = Probe.checked(Probe.bytes(165, 6, 0x01, 0, 1));
         P.due("18: ask", Probe.frame(x, 0), ask);
         P.due("18: ask to the first", Probe.frame(x, 2), Probe.checked(Probe.bytes(165, 6, 0x20, 0, 1)));
@@ -125,7 +125,7 @@ public final class FlightPromisesTest {
     }
 
     private static void promise18Requests() {
-        SnapCluster x = new SnapCluster(3, 2, 2, 2);
+        Cluster x = new Cluster(3, 2, 2, 2);
         x.beginAt(9, 0, false);
         x.readKey(9, 8);
         x.readKey(9, 1);
@@ -153,7 +153,7 @@ public final class FlightPromisesTest {
     }
 
     private static void promise18Told(byte[] request) {
-        SnapCluster x = new SnapCluster(3, 2, 2, 2);
+        Cluster x = new Cluster(3, 2, 2, 2);
         x.beginAt(9, 0, false);
         x.readKey(9, 8);
         x.readKey(9, 1);
@@ -183,7 +183,7 @@ public final class FlightPromisesTest {
     }
 
     private static void promise18Pieces() {
-        SnapCluster x = new SnapCluster(3, 2, 1, 2);
+        Cluster x = new Cluster(3, 2, 1, 2);
         Probe.write(x, 2, 0, 0, 0x0A0B0C0D);
         Probe.tick(x, 0, 2);
         Probe.deliverBut(x, 2);
@@ -207,7 +207,7 @@ public final class FlightPromisesTest {
         byte[] rest = java.util.Arrays.copyOfRange(state, 64, 101);
         byte[] last = Probe.join(Probe.bytes(165, 8, 0x02, 0, 2, 1, 2, 37), rest);
         P.due("18: piece 1", Probe.frame(x, x.lookAt(3) - 1), Probe.checked(last));
-        SnapCluster y = Probe.led(2, 2);
+        Cluster y = Probe.led(2, 2);
         Probe.tick(y, 0, 2);
         P.due("18: beat", Probe.frame(y, 1), Probe.checked(Probe.bytes(165, 10, 0x02, 3, 1)));
     }
@@ -215,7 +215,7 @@ public final class FlightPromisesTest {
     /** 127 is one byte, 128 is two, and both are read again from the journal. */
     private static void promise18Numbers() {
         for (int r = 1; r < 3; r++) {
-            SnapCluster x = new SnapCluster(3, 2, 2, 2);
+            Cluster x = new Cluster(3, 2, 2, 2);
             Probe.write(x, r, r, 1, 1);
             Probe.tick(x, r, r);
             for (int i = 0; i < 43; i++) {
@@ -234,7 +234,7 @@ public final class FlightPromisesTest {
 
     /** Nothing of a frame that was lost is left in one that is sent later. */
     private static void framesAreUsedAgain() {
-        SnapCluster x = new SnapCluster(3, 2, 1, 2);
+        Cluster x = new Cluster(3, 2, 1, 2);
         Probe.write(x, 0, 0, 1, 1);
         Probe.tick(x, 0, 2);
         x.deliverAt(0);
@@ -264,7 +264,7 @@ public final class FlightPromisesTest {
     }
 
     private static void promise23() {
-        SnapCluster x = asking();
+        Cluster x = asking();
         int[] wanted = {6, 1, 2, 0, 1, NONE, 0, 0, 9, NONE, NONE};
         for (int what = 0; what < wanted.length; what++) {
             P.due("23: messageOf " + what, x.messageOf(1, what), wanted[what]);
@@ -278,14 +278,14 @@ public final class FlightPromisesTest {
     }
 
     private static void promise24() {
-        SnapCluster x = new SnapCluster(4, 5, 6, 7);
+        Cluster x = new Cluster(4, 5, 6, 7);
         int[] first = {4, 5, 6, 0, 0, 0, 0, 0, 7, 0, NONE};
         for (int which = 0; which < first.length; which++) {
             P.due("24: lookAt " + which, x.lookAt(which), first[which]);
         }
         P.due("24: which -1", x.lookAt(-1), NONE);
         P.due("24: which 99", x.lookAt(99), NONE);
-        SnapCluster y = Probe.led(2, 2);
+        Cluster y = Probe.led(2, 2);
         P.due("24: nobody waits", y.lookAt(7), 0);
         P.due("24: the greatest index", y.lookAt(6), 1);
         Probe.write(y, 0, 0, 1, 1);

@@ -33,7 +33,7 @@ public final class JournalPromisesTest {
     }
 
     private static void promise13() {
-        SnapCluster x = Probe.led(2, 2);
+        Cluster x = Probe.led(2, 2);
         P.due("13: replica -1", x.turnTo(-1, false), false);
         P.due("13: replica 3", x.turnTo(3, true), false);
         P.due("13: it is up", x.turnTo(0, true), false);
@@ -56,7 +56,7 @@ public final class JournalPromisesTest {
     }
 
     private static void promise13ReadsAgain() {
-        SnapCluster x = Probe.led(2, 3);
+        Cluster x = Probe.led(2, 3);
         for (int i = 0; i < 5; i++) {
             Probe.decide(x, i, i, 10 + i);
         }
@@ -91,7 +91,7 @@ public final class JournalPromisesTest {
     }
 
     private static void promise13ReadsAllVersions() {
-        SnapCluster x = Probe.led(16, 32);
+        Cluster x = Probe.led(16, 32);
         for (int i = 2; i < 20; i++) {
             Probe.decide(x, 0, i == 17 ? 3 : 4, i);
         }
@@ -108,7 +108,7 @@ public final class JournalPromisesTest {
     }
 
     private static void promise13ReadsWhatWasWritten() {
-        SnapCluster x = Probe.led(8, 1);
+        Cluster x = Probe.led(8, 1);
         Probe.decideBehind(x);
         Probe.decideBehind(x);
         x.turnTo(0, false);
@@ -122,7 +122,7 @@ public final class JournalPromisesTest {
     }
 
     private static void promise14() {
-        SnapCluster x = new SnapCluster(3, 1, 1, 2);
+        Cluster x = new Cluster(3, 1, 1, 2);
         P.due("14: replica -1", x.crashAfter(-1, 0), false);
         P.due("14: replica 3", x.crashAfter(3, 0), false);
         P.due("14: above 1000", x.crashAfter(0, 1001), false);
@@ -155,7 +155,7 @@ public final class JournalPromisesTest {
     }
 
     private static void promise16() {
-        SnapCluster x = Probe.led(2, 2);
+        Cluster x = Probe.led(2, 2);
         P.due("16: replica -1", x.journalOf(-1, 0), NONE);
         P.due("16: replica 3", x.journalOf(3, 0), NONE);
         P.due("16: what -1", x.journalOf(0, -1), NONE);
@@ -176,7 +176,7 @@ public final class JournalPromisesTest {
     }
 
     private static void promise17() {
-        SnapCluster x = new SnapCluster(3, 1, 1, 2);
+        Cluster x = new Cluster(3, 1, 1, 2);
         P.due("17: the first word", x.blockOf(2, 1, 0), 0x4A31000001000000L);
         P.due("17: replica -1", x.blockOf(-1, 1, 0), 0);
         P.due("17: replica 3", x.blockOf(3, 1, 0), 0);
@@ -190,7 +190,7 @@ public final class JournalPromisesTest {
     }
 
     private static void notesLieBehindOneAnother() {
-        SnapCluster x = Probe.led(2, 2);
+        Cluster x = Probe.led(2, 2);
         byte[] request = Probe.bytes(15, 1, 0, 0, 0, 128, 0, 0, 0, 0, 1);
         byte[] promised = Probe.inRecord(Probe.bytes(1, 3));
         byte[] accepted = Probe.inRecord(Probe.join(Probe.bytes(2, 3, 1), request));
@@ -202,7 +202,7 @@ public final class JournalPromisesTest {
     }
 
     /** Has replica 0 propose a request that writes some keys: 16 bytes and 4 for each key to accept it. */
-    private static void propose(SnapCluster x, int keys) {
+    private static void propose(Cluster x, int keys) {
         x.beginAt(0, 0, false);
         for (int key = 0; key < keys; key++) {
             x.writeKey(0, key, 0x01010101 * (key + 1));
@@ -212,8 +212,8 @@ public final class JournalPromisesTest {
     }
 
     /** Replica 1 has 442 bytes, and the frame that has it learn a request of 16 keys is number 1. */
-    private static SnapCluster nearEndOfBlock() {
-        SnapCluster x = Probe.led(2, 2);
+    private static Cluster nearEndOfBlock() {
+        Cluster x = Probe.led(2, 2);
         for (int i = 0; i < 2; i++) {
             propose(x, 16);
             Probe.deliver(x);
@@ -229,7 +229,7 @@ public final class JournalPromisesTest {
 
     /** The learning of the third request takes bytes 442 .. 520: the second block is written first. */
     private static void noteOverTwoBlocks(int n) {
-        SnapCluster x = nearEndOfBlock();
+        Cluster x = nearEndOfBlock();
         byte[] first = Probe.disk(x, 1, 2, 0, 512);
         x.crashAfter(1, n);
         x.deliverAt(1);
@@ -256,8 +256,8 @@ public final class JournalPromisesTest {
     }
 
     /** Replica 1 has 512 - 44 bytes, and the last frame has it accept a request of 7 keys once more. */
-    private static SnapCluster nearFullBlock() {
-        SnapCluster x = Probe.led(2, 2);
+    private static Cluster nearFullBlock() {
+        Cluster x = Probe.led(2, 2);
         propose(x, 16);
         Probe.deliver(x);
         propose(x, 7);
@@ -274,7 +274,7 @@ public final class JournalPromisesTest {
 
     /** A record that ends with its block has the zeros in the next one, which is written too. */
     private static void noteThatFillsItsBlock() {
-        SnapCluster x = nearFullBlock();
+        Cluster x = nearFullBlock();
         x.deliverAt(2);
         P.due("16: a full block", x.journalOf(1, 1), 512);
         P.due("16: two blocks for that", x.journalOf(1, 4), 11 + 2);
@@ -283,7 +283,7 @@ public final class JournalPromisesTest {
         P.due("16: the next note", x.journalOf(1, 1), 556);
         P.due("16: one block for that", x.journalOf(1, 4), 14);
         P.due("16: in the next block", Probe.disk(x, 1, 3, 0, 2), Probe.bytes(38, 0));
-        SnapCluster y = nearFullBlock();
+        Cluster y = nearFullBlock();
         y.crashAfter(1, 1);
         y.deliverAt(2);
         P.due("14: the zeros were written alone", y.journalOf(1, 4), 12);
@@ -292,8 +292,8 @@ public final class JournalPromisesTest {
     }
 
     /** Replica 0 campaigns until its journal has so many records; nothing of it comes. */
-    private static SnapCluster campaigned(int versions, int records) {
-        SnapCluster x = new SnapCluster(3, versions, 2, 2);
+    private static Cluster campaigned(int versions, int records) {
+        Cluster x = new Cluster(3, versions, 2, 2);
         Probe.write(x, 0, 0, 1, 1);
         for (int i = 0; i < records; i++) {
             Probe.tick(x, 0, 2);
@@ -306,7 +306,7 @@ public final class JournalPromisesTest {
     }
 
     private static void checkpoint() {
-        SnapCluster x = campaigned(3, 47);
+        Cluster x = campaigned(3, 47);
         P.due("16: records", x.journalOf(0, 0), 47);
         P.due("16: generation", x.journalOf(0, 2), 1);
         int used = x.journalOf(0, 1);
@@ -331,7 +331,7 @@ public final class JournalPromisesTest {
     }
 
     private static void checkpointWithAllRecords() {
-        SnapCluster x = Probe.led(2, 2);
+        Cluster x = Probe.led(2, 2);
         Probe.decide(x, 0, 2, 20);
         Probe.decide(x, 1, 3, 30);
         Probe.write(x, 2, 0, 4, 40);
@@ -375,7 +375,7 @@ public final class JournalPromisesTest {
     }
 
     private static void crashInCheckpoint(int n) {
-        SnapCluster x = campaigned(3, 47);
+        Cluster x = campaigned(3, 47);
         x.crashAfter(0, n);
         int flying = x.lookAt(3);
         Probe.tick(x, 0, 2);
@@ -397,7 +397,7 @@ public final class JournalPromisesTest {
 
     /** What was noted counts, though the replica crashed ahead of telling anybody. */
     private static void crashedLearningIsKept() {
-        SnapCluster x = Probe.led(2, 2);
+        Cluster x = Probe.led(2, 2);
         Probe.write(x, 0, 0, 2, 20);
         x.tickOf(0);
         x.retryAt(0, 1);
@@ -422,7 +422,7 @@ public final class JournalPromisesTest {
 
     /** Where its records take 512 bytes the zeros behind them have a block of their own. */
     private static void checkpointAtTheEndOfItsBlock(int versions, int bytes, int blocks) {
-        SnapCluster x = Probe.led(versions, 2);
+        Cluster x = Probe.led(versions, 2);
         for (int i = 0; i < 4; i++) {
             Probe.decide(x, 0, 2, i);
         }
@@ -443,7 +443,7 @@ public final class JournalPromisesTest {
 
     /** A leader that goes down by a checkpoint proposes nothing more, and tells nobody. */
     private static void crashInCheckpointOfLeader() {
-        SnapCluster x = campaigned(2, 44);
+        Cluster x = campaigned(2, 44);
         Probe.lose(x);
         Probe.write(x, 1, 0, 3, 3);
         Probe.tick(x, 0, 2);
@@ -457,7 +457,7 @@ public final class JournalPromisesTest {
         x.deliverAt(1);
         P.due("14: learnt and proposed once more", x.replicaOf(0, 1) * 10 + x.replicaOf(0, 11), 11);
         P.due("14: a checkpoint was made", x.journalOf(0, 2), 2);
-        SnapCluster y = campaigned(2, 45);
+        Cluster y = campaigned(2, 45);
         Probe.lose(y);
         Probe.write(y, 1, 0, 3, 3);
         Probe.tick(y, 0, 2);
@@ -478,7 +478,7 @@ public final class JournalPromisesTest {
 
     /** The third generation lies over the first one; what is left of that behind it is not read. */
     private static void checkpointBackToFirstHalf() {
-        SnapCluster x = campaigned(1, 94);
+        Cluster x = campaigned(1, 94);
         P.due("16: generation", x.journalOf(0, 2), 3);
         P.due("16: half", x.journalOf(0, 3), 0);
         P.due("16: records", x.journalOf(0, 0), 2);

@@ -32,14 +32,8 @@ public final class ProtocolPromisesTest {
         P.end("ProtocolPromisesTest");
     }
 
-    private static void message(String name, SnapCluster x, int i, int... wanted) {
-        for (int what = 0; what < wanted.length; what++) {
-            P.due(name + ", messageOf " + what, x.messageOf(i, what), wanted[what]);
-        }
-    }
-
     private static void tickOfWrongOnes() {
-        SnapCluster x = new SnapCluster(3, 1, 1, 2);
+        Cluster x = new Cluster(3, 1, 1, 2);
         P.due("8: replica -1", x.tickOf(-1), NONE);
         P.due("8: replica 3", x.tickOf(3), NONE);
         x.turnTo(1, false);
@@ -47,19 +41,19 @@ public final class ProtocolPromisesTest {
     }
 
     private static void tickOfFollower() {
-        SnapCluster x = new SnapCluster(3, 1, 1, 3);
+        Cluster x = new Cluster(3, 1, 1, 3);
         P.due("8: quiet 1", x.tickOf(2), 0);
         P.due("8: quiet 2", x.tickOf(2), 0);
         P.due("8: quiet is told", x.replicaOf(2, 12), 2);
         P.due("8: asks", x.tickOf(2), 1);
         P.due("8: quiet is 0", x.replicaOf(2, 12), 0);
-        message("8: the last asks the first", x, 0, 6, 2, 0, 0, 1);
+        P.message("8: the last asks the first", x, 0, 6, 2, 0, 0, 1);
         Probe.tick(x, 0, 3);
-        message("8: the first asks the next", x, 1, 6, 0, 1, 0, 1);
+        P.message("8: the first asks the next", x, 1, 6, 0, 1, 0, 1);
     }
 
     private static void tickOfFollowerWhoWaits() {
-        SnapCluster x = new SnapCluster(4, 1, 1, 2);
+        Cluster x = new Cluster(4, 1, 1, 2);
         Probe.write(x, 0, 2, 1, 1);
         P.due("8: nobody is seen", x.tickOf(2), 0);
         Probe.tick(x, 2, 2);
@@ -71,14 +65,14 @@ public final class ProtocolPromisesTest {
         P.due("8: seen stays", x.replicaOf(2, 9), 0);
         P.due("8: it alone", x.replicaOf(2, 8), 4);
         P.due("8: quiet is 0", x.replicaOf(2, 12), 0);
-        message("8: prepare to 0", x, 0, 1, 2, 0, 2, 1);
-        message("8: prepare to 1", x, 1, 1, 2, 1, 2, 1);
-        message("8: prepare to 3", x, 2, 1, 2, 3, 2, 1);
+        P.message("8: prepare to 0", x, 0, 1, 2, 0, 2, 1);
+        P.message("8: prepare to 1", x, 1, 1, 2, 1, 2, 1);
+        P.message("8: prepare to 3", x, 2, 1, 2, 3, 2, 1);
         Probe.write(x, 1, 1, 1, 1);
         x.deliverAt(1);
         Probe.lose(x);
         P.due("8: forwards at once", x.tickOf(1), 1);
-        message("8: forward", x, 0, 9, 1, 2, 0, 0, 1);
+        P.message("8: forward", x, 0, 9, 1, 2, 0, 0, 1);
         P.due("8: quiet goes on", x.replicaOf(1, 12), 1);
         P.due("8: and again", x.tickOf(1), 2);
         P.due("8: then it campaigns", x.tickOf(1), 5);
@@ -93,29 +87,29 @@ public final class ProtocolPromisesTest {
     }
 
     private static void tickOfCandidate() {
-        SnapCluster x = new SnapCluster(3, 1, 1, 2);
+        Cluster x = new Cluster(3, 1, 1, 2);
         Probe.write(x, 0, 0, 1, 1);
         Probe.tick(x, 0, 2);
         P.due("8: candidate waits", x.tickOf(0), 2);
         P.due("8: candidate again", x.tickOf(0), 4);
         P.due("8: the next ballot", x.replicaOf(0, 7), 6);
-        message("8: prepare again", x, 3, 1, 0, 2, 6, 1);
+        P.message("8: prepare again", x, 3, 1, 0, 2, 6, 1);
     }
 
     private static void tickOfLeader() {
-        SnapCluster x = Probe.led(2, 2);
+        Cluster x = Probe.led(2, 2);
         P.due("8: leads", x.replicaOf(0, 6), 2);
         P.due("8: quiet leader", x.tickOf(0), 0);
         P.due("8: beats", x.tickOf(0), 2);
-        message("8: beat", x, 0, 10, 0, 1, 3, 1);
-        message("8: beat to all", x, 1, 10, 0, 2, 3, 1);
+        P.message("8: beat", x, 0, 10, 0, 1, 3, 1);
+        P.message("8: beat to all", x, 1, 10, 0, 2, 3, 1);
         P.due("8: quiet is 0", x.replicaOf(0, 12), 0);
         Probe.lose(x);
         Probe.tick(x, 0, 1);
         Probe.write(x, 0, 0, 4, 4);
         Probe.write(x, 1, 0, 5, 5);
         P.due("8: proposes", x.tickOf(0), 2);
-        message("8: accept", x, 0, 3, 0, 1, 3, 2, 0);
+        P.message("8: accept", x, 0, 3, 0, 1, 3, 2, 0);
         P.due("8: proposed", x.replicaOf(0, 11), 0);
         P.due("8: it stays waiting", x.replicaOf(0, 10), 2);
         P.due("8: it alone", x.replicaOf(0, 8), 1);
@@ -123,12 +117,12 @@ public final class ProtocolPromisesTest {
         P.due("8: quiet is 0", x.replicaOf(0, 12), 0);
         P.due("8: not yet", x.tickOf(0), 2);
         P.due("8: accept again", x.tickOf(0), 4);
-        message("8: accept again", x, 3, 3, 0, 2, 3, 2, 0);
+        P.message("8: accept again", x, 3, 3, 0, 2, 3, 2, 0);
         P.due("8: quiet is 0", x.replicaOf(0, 12), 0);
     }
 
     private static void tickThatCrashes() {
-        SnapCluster x = Probe.led(2, 2);
+        Cluster x = Probe.led(2, 2);
         Probe.write(x, 0, 0, 4, 4);
         x.crashAfter(0, 0);
         P.due("8: nothing is sent", x.tickOf(0), 0);
@@ -137,7 +131,7 @@ public final class ProtocolPromisesTest {
     }
 
     private static void deliverOfWrongOnes() {
-        SnapCluster x = new SnapCluster(3, 1, 1, 2);
+        Cluster x = new Cluster(3, 1, 1, 2);
         P.due("9: none", x.deliverAt(0), NONE);
         Probe.tick(x, 0, 2);
         P.due("9: frame -1", x.deliverAt(-1), NONE);
@@ -156,7 +150,7 @@ public final class ProtocolPromisesTest {
     }
 
     private static void prepare() {
-        SnapCluster x = new SnapCluster(3, 2, 2, 2);
+        Cluster x = new Cluster(3, 2, 2, 2);
         Probe.write(x, 0, 0, 1, 1);
         Probe.write(x, 1, 1, 1, 1);
         Probe.tick(x, 0, 2);
@@ -165,14 +159,14 @@ public final class ProtocolPromisesTest {
         P.due("9: two candidates", x.replicaOf(0, 7) * 10 + x.replicaOf(1, 7), 31);
         x.doubleAt(1);
         P.due("9: prepare of 0 at 2", x.deliverAt(1), 1);
-        message("9: a promise", x, 4, 2, 2, 0, 3, 1, NONE, 0);
+        P.message("9: a promise", x, 4, 2, 2, 0, 3, 1, NONE, 0);
         P.due("9: quiet stays", x.replicaOf(2, 12), 1);
         P.due("9: noted", x.journalOf(2, 0), 1);
         P.due("9: the double", x.deliverAt(3), 1);
-        message("9: promised again", x, 4, 2, 2, 0, 3, 1);
+        P.message("9: promised again", x, 4, 2, 2, 0, 3, 1);
         P.due("9: not noted again", x.journalOf(2, 0), 1);
         P.due("9: prepare of 1 at 2", x.deliverAt(2), 1);
-        message("9: denied", x, 4, 7, 2, 1, 3, 0);
+        P.message("9: denied", x, 4, 7, 2, 1, 3, 0);
         P.due("9: prepare of 0 at 1", x.deliverAt(0), 1);
         P.due("9: the candidate follows", x.replicaOf(1, 6), 0);
         P.due("9: without a ballot", x.replicaOf(1, 7), 0);
@@ -181,7 +175,7 @@ public final class ProtocolPromisesTest {
     }
 
     private static void prepareOfOneBehind() {
-        SnapCluster x = Probe.led(2, 1);
+        Cluster x = Probe.led(2, 1);
         Probe.write(x, 0, 0, 2, 2);
         Probe.tick(x, 0, 1);
         Probe.deliverBut(x, 2);
@@ -189,14 +183,14 @@ public final class ProtocolPromisesTest {
         Probe.tick(x, 2, 3);
         Probe.lose(x);
         Probe.tick(x, 2, 1);
-        message("9: prepare of one behind", x, 0, 1, 2, 0, 5, 2);
+        P.message("9: prepare of one behind", x, 0, 1, 2, 0, 5, 2);
         x.deliverAt(0);
-        message("9: helped with what is kept", x, 1, 5, 0, 2, 0, 2, 0);
+        P.message("9: helped with what is kept", x, 1, 5, 0, 2, 0, 2, 0);
         P.due("9: seen but not promised", x.replicaOf(0, 9) * 10 + x.replicaOf(0, 4), 53);
     }
 
     private static void promise() {
-        SnapCluster x = new SnapCluster(5, 2, 2, 2);
+        Cluster x = new Cluster(5, 2, 2, 2);
         Probe.tick(x, 0, 1);
         Probe.write(x, 0, 0, 1, 1);
         x.tickOf(0);
@@ -217,33 +211,33 @@ public final class ProtocolPromisesTest {
         P.due("9: a promise more", x.deliverAt(0), 2);
         P.due("9: changes nothing", x.replicaOf(0, 8), 1);
         P.due("9: a promise and accepts in flight", x.lookAt(3), 5);
-        SnapCluster y = new SnapCluster(3, 2, 2, 2);
+        Cluster y = new Cluster(3, 2, 2, 2);
         Probe.write(y, 0, 0, 1, 1);
         Probe.tick(y, 0, 2);
         y.deliverAt(0);
         Probe.tick(y, 0, 2);
         P.due("9: a promise for an older ballot", y.deliverAt(1), 2);
         P.due("9: does not count", y.replicaOf(0, 8) * 10 + y.replicaOf(0, 6), 11);
-        SnapCluster z = new SnapCluster(4, 2, 2, 2);
+        Cluster z = new Cluster(4, 2, 2, 2);
         Probe.write(z, 0, 0, 1, 1);
         Probe.tick(z, 0, 2);
-        deliverOne(z, 1, 0, 2);
-        deliverOne(z, 2, 2, 0);
+        P.come(z, 1, 0, 2);
+        P.come(z, 2, 2, 0);
         P.due("9: half of four are not enough", z.replicaOf(0, 8) * 10 + z.replicaOf(0, 6), 51);
-        deliverOne(z, 1, 0, 3);
-        deliverOne(z, 2, 3, 0);
+        P.come(z, 1, 0, 3);
+        P.come(z, 2, 3, 0);
         P.due("9: three of four are", z.replicaOf(0, 8) * 10 + z.replicaOf(0, 6), 12);
-        deliverOne(z, 3, 0, 1);
-        deliverOne(z, 3, 0, 2);
-        deliverOne(z, 4, 1, 0);
+        P.come(z, 3, 0, 1);
+        P.come(z, 3, 0, 2);
+        P.come(z, 4, 1, 0);
         P.due("9: half of four do not choose", z.replicaOf(0, 8) * 10 + z.replicaOf(0, 1), 30);
-        deliverOne(z, 4, 2, 0);
+        P.come(z, 4, 2, 0);
         P.due("9: three of four do", z.replicaOf(0, 1), 1);
     }
 
     /** What was accepted with a lesser ballot is proposed again by the next leader. */
     private static void promiseThatTells() {
-        SnapCluster x = new SnapCluster(3, 2, 2, 2);
+        Cluster x = new Cluster(3, 2, 2, 2);
         Probe.write(x, 0, 0, 1, 1);
         Probe.tick(x, 0, 2);
         x.deliverAt(0);
@@ -257,7 +251,7 @@ public final class ProtocolPromisesTest {
         Probe.tick(x, 2, 4);
         P.due("9: its ballot", x.replicaOf(2, 7), 2);
         x.deliverAt(1);
-        message("9: denied", x, 1, 7, 1, 2, 3, 0);
+        P.message("9: denied", x, 1, 7, 1, 2, 3, 0);
         x.deliverAt(1);
         P.due("9: follows", x.replicaOf(2, 6), 0);
         P.due("9: has seen it", x.replicaOf(2, 9), 3);
@@ -265,39 +259,28 @@ public final class ProtocolPromisesTest {
         Probe.tick(x, 2, 4);
         P.due("9: a greater ballot", x.replicaOf(2, 7), 5);
         x.deliverAt(x.lookAt(3) - 1);
-        message("9: told", x, x.lookAt(3) - 1, 2, 1, 2, 5, 1, 0, 3);
+        P.message("9: told", x, x.lookAt(3) - 1, 2, 1, 2, 5, 1, 0, 3);
         x.deliverAt(x.lookAt(3) - 1);
         P.due("9: that is proposed", x.replicaOf(2, 11), 0);
         P.due("9: with its own ballot", x.replicaOf(2, 5), 5);
         P.due("9: its own waits", x.replicaOf(2, 10), 1);
     }
 
-    /** The latest frame of a kind from one replica to another one comes. */
-    private static void deliverOne(SnapCluster x, int kind, int from, int to) {
-        for (int i = x.lookAt(3) - 1; i >= 0; i--) {
-            if (x.messageOf(i, 0) == kind && x.messageOf(i, 1) == from && x.messageOf(i, 2) == to) {
-                P.due("9: comes", x.deliverAt(i), kind);
-                return;
-            }
-        }
-        P.due("9: a frame of kind " + kind + " from " + from + " to " + to, false, true);
-    }
-
     /** Replica 1 of five has accepted the request of session 0 with 5, replica 2 that of session 2 with 7. */
-    private static SnapCluster twoAccepted() {
-        SnapCluster x = new SnapCluster(5, 2, 2, 2);
+    private static Cluster twoAccepted() {
+        Cluster x = new Cluster(5, 2, 2, 2);
         Probe.write(x, 0, 0, 0, 0);
         Probe.tick(x, 0, 2);
         for (int r = 1; r < 3; r++) {
-            deliverOne(x, 1, 0, r);
-            deliverOne(x, 2, r, 0);
+            P.come(x, 1, 0, r);
+            P.come(x, 2, r, 0);
         }
-        deliverOne(x, 3, 0, 1);
+        P.come(x, 3, 0, 1);
         Probe.write(x, 2, 2, 2, 2);
         Probe.tick(x, 2, 4);
         for (int r = 3; r < 5; r++) {
-            deliverOne(x, 1, 2, r);
-            deliverOne(x, 2, r, 2);
+            P.come(x, 1, 2, r);
+            P.come(x, 2, r, 2);
         }
         P.due("9: accepted", x.replicaOf(1, 5) * 10 + x.replicaOf(2, 5), 57);
         P.due("9: of the sessions", x.replicaOf(0, 11) * 10 + x.replicaOf(2, 11), 2);
@@ -308,20 +291,20 @@ public final class ProtocolPromisesTest {
     private static void greatestBallotIsKept(int order) {
         int[][] whoAndWhom = {{3, 1, 2}, {3, 2, 1}, {1, 2, 4}, {2, 1, 4}};
         int who = whoAndWhom[order][0];
-        SnapCluster x = twoAccepted();
+        Cluster x = twoAccepted();
         x.turnTo(who, false);
         x.turnTo(who, true);
         Probe.write(x, 9, who, 9, 9);
         Probe.tick(x, who, 2 + who);
         P.due("9: candidate", x.replicaOf(who, 6), 1);
         for (int i = 1; i < 3; i++) {
-            deliverOne(x, 1, who, whoAndWhom[order][i]);
+            P.come(x, 1, who, whoAndWhom[order][i]);
             if (x.messageOf(x.lookAt(3) - 1, 0) == 7) {
-                deliverOne(x, 7, whoAndWhom[order][i], who);
+                P.come(x, 7, whoAndWhom[order][i], who);
                 Probe.tick(x, who, 2 + who);
                 i = 0;
             } else {
-                deliverOne(x, 2, whoAndWhom[order][i], who);
+                P.come(x, 2, whoAndWhom[order][i], who);
             }
         }
         P.due("9: the greatest ballot, order " + order, x.replicaOf(who, 11), 2);
@@ -329,59 +312,59 @@ public final class ProtocolPromisesTest {
 
     /** What was told to a campaign that is over does not count in the next one. */
     private static void promiseToAnOlderCampaign() {
-        SnapCluster x = new SnapCluster(5, 2, 2, 2);
+        Cluster x = new Cluster(5, 2, 2, 2);
         Probe.write(x, 0, 0, 0, 0);
         Probe.tick(x, 0, 2);
         for (int r = 1; r < 3; r++) {
-            deliverOne(x, 1, 0, r);
-            deliverOne(x, 2, r, 0);
+            P.come(x, 1, 0, r);
+            P.come(x, 2, r, 0);
         }
-        deliverOne(x, 3, 0, 1);
+        P.come(x, 3, 0, 1);
         Probe.lose(x);
         Probe.write(x, 3, 3, 3, 3);
         Probe.tick(x, 3, 5);
-        deliverOne(x, 1, 3, 1);
-        deliverOne(x, 7, 1, 3);
+        P.come(x, 1, 3, 1);
+        P.come(x, 7, 1, 3);
         Probe.tick(x, 3, 5);
-        deliverOne(x, 1, 3, 1);
-        deliverOne(x, 2, 1, 3);
+        P.come(x, 1, 3, 1);
+        P.come(x, 2, 1, 3);
         P.due("9: two have answered", x.replicaOf(3, 8), 10);
         Probe.lose(x);
         Probe.tick(x, 3, 2);
         P.due("9: it alone", x.replicaOf(3, 8), 8);
-        deliverOne(x, 1, 3, 2);
-        deliverOne(x, 2, 2, 3);
-        deliverOne(x, 1, 3, 4);
-        deliverOne(x, 2, 4, 3);
+        P.come(x, 1, 3, 2);
+        P.come(x, 2, 2, 3);
+        P.come(x, 1, 3, 4);
+        P.come(x, 2, 4, 3);
         P.due("9: its own is proposed", x.replicaOf(3, 11), 3);
     }
 
     /** An answer to what the leader proposed with an older ballot does not count. */
     private static void acceptedOfOlderBallot() {
-        SnapCluster x = new SnapCluster(3, 2, 2, 2);
+        Cluster x = new Cluster(3, 2, 2, 2);
         Probe.write(x, 0, 0, 0, 0);
         Probe.tick(x, 0, 2);
-        deliverOne(x, 1, 0, 1);
-        deliverOne(x, 2, 1, 0);
-        deliverOne(x, 3, 0, 1);
-        message("9: accepted with 3", x, x.lookAt(3) - 1, 4, 1, 0, 3, 1);
+        P.come(x, 1, 0, 1);
+        P.come(x, 2, 1, 0);
+        P.come(x, 3, 0, 1);
+        P.message("9: accepted with 3", x, x.lookAt(3) - 1, 4, 1, 0, 3, 1);
         x.turnTo(0, false);
         x.turnTo(0, true);
         x.retryAt(0, 0);
         Probe.tick(x, 0, 2);
-        deliverOne(x, 1, 0, 2);
-        deliverOne(x, 2, 2, 0);
+        P.come(x, 1, 0, 2);
+        P.come(x, 2, 2, 0);
         P.due("9: leads with 6", x.replicaOf(0, 7) * 10 + x.replicaOf(0, 6), 62);
-        deliverOne(x, 4, 1, 0);
+        P.come(x, 4, 1, 0);
         P.due("9: not answered", x.replicaOf(0, 8) * 10 + x.replicaOf(0, 1), 10);
-        deliverOne(x, 3, 0, 2);
-        deliverOne(x, 4, 2, 0);
+        P.come(x, 3, 0, 2);
+        P.come(x, 4, 2, 0);
         P.due("9: chosen", x.replicaOf(0, 1), 1);
     }
 
     /** One that has its state from another decides like that. */
     private static void piecesTellWhatWasWritten() {
-        SnapCluster x = Probe.led(2, 1);
+        Cluster x = Probe.led(2, 1);
         Probe.decideBehind(x);
         x.beginAt(5, 0, false);
         x.readKey(5, 7);
@@ -399,7 +382,7 @@ public final class ProtocolPromisesTest {
     }
 
     private static void accept() {
-        SnapCluster x = Probe.led(2, 2);
+        Cluster x = Probe.led(2, 2);
         Probe.write(x, 0, 0, 4, 4);
         Probe.tick(x, 1, 1);
         Probe.tick(x, 0, 1);
@@ -407,7 +390,7 @@ public final class ProtocolPromisesTest {
         x.doubleAt(0);
         x.doubleAt(0);
         x.deliverAt(0);
-        message("9: accepted", x, 3, 4, 1, 0, 3, 2);
+        P.message("9: accepted", x, 3, 4, 1, 0, 3, 2);
         P.due("9: with its ballot", x.replicaOf(1, 5), 3);
         P.due("9: quiet is 0", x.replicaOf(1, 12), 0);
         x.deliverAt(1);
@@ -416,9 +399,9 @@ public final class ProtocolPromisesTest {
         Probe.write(x, 1, 0, 5, 5);
         Probe.tick(x, 0, 1);
         x.deliverAt(1);
-        message("9: too far ahead", x, 1, 6, 2, 0, 0, 2);
+        P.message("9: too far ahead", x, 1, 6, 2, 0, 0, 2);
         P.due("9: nothing accepted", x.replicaOf(2, 5), NONE);
-        SnapCluster y = Probe.led(2, 2);
+        Cluster y = Probe.led(2, 2);
         Probe.write(y, 0, 0, 4, 4);
         Probe.tick(y, 0, 1);
         y.doubleAt(1);
@@ -428,21 +411,21 @@ public final class ProtocolPromisesTest {
         }
         P.due("9: it is learnt", y.replicaOf(2, 1), 2);
         y.deliverAt(0);
-        message("9: a slot that is known", y, y.lookAt(3) - 1, 5, 2, 0, 0, 2, 0);
+        P.message("9: a slot that is known", y, y.lookAt(3) - 1, 5, 2, 0, 0, 2, 0);
         acceptOfOlderBallot();
     }
 
     private static void acceptOfOlderBallot() {
-        SnapCluster x = Probe.led(2, 2);
+        Cluster x = Probe.led(2, 2);
         Probe.write(x, 0, 0, 4, 4);
         Probe.tick(x, 0, 1);
         Probe.write(x, 1, 1, 5, 5);
         Probe.tick(x, 1, 3);
-        message("9: prepare of 1", x, 4, 1, 1, 0, 4, 2);
+        P.message("9: prepare of 1", x, 4, 1, 1, 0, 4, 2);
         P.due("9: forwards while it waits", x.messageOf(3, 0), 9);
         x.deliverAt(5);
         x.deliverAt(1);
-        message("9: an older ballot", x, x.lookAt(3) - 1, 7, 2, 0, 4, 0);
+        P.message("9: an older ballot", x, x.lookAt(3) - 1, 7, 2, 0, 4, 0);
         x.deliverAt(x.lookAt(3) - 1);
         P.due("9: the leader follows", x.replicaOf(0, 6), 0);
         P.due("9: with nothing proposed", x.replicaOf(0, 11), NONE);
@@ -450,7 +433,7 @@ public final class ProtocolPromisesTest {
     }
 
     private static void accepted() {
-        SnapCluster x = new SnapCluster(5, 2, 2, 2);
+        Cluster x = new Cluster(5, 2, 2, 2);
         Probe.write(x, 0, 0, 1, 1);
         Probe.write(x, 1, 0, 2, 2);
         Probe.tick(x, 0, 2);
@@ -472,9 +455,9 @@ public final class ProtocolPromisesTest {
         P.due("9: chosen and learnt", x.replicaOf(0, 1), 1);
         P.due("9: and told", x.sessionOf(0, 0), 3);
         P.due("9: it waits no more", x.replicaOf(0, 10), 1);
-        message("9: chosen to all", x, 2, 5, 0, 1, 0, 1, 0);
-        message("9: chosen to the last", x, 5, 5, 0, 4, 0, 1, 0);
-        message("9: then the next", x, 6, 3, 0, 1, 5, 2, 1);
+        P.message("9: chosen to all", x, 2, 5, 0, 1, 0, 1, 0);
+        P.message("9: chosen to the last", x, 5, 5, 0, 4, 0, 1, 0);
+        P.message("9: then the next", x, 6, 3, 0, 1, 5, 2, 1);
         P.due("9: proposed", x.replicaOf(0, 11), 1);
         P.due("9: quiet is 0", x.replicaOf(0, 12), 0);
         acceptedAndCrash();
@@ -482,7 +465,7 @@ public final class ProtocolPromisesTest {
     }
 
     private static void acceptedAndCrash() {
-        SnapCluster x = Probe.led(2, 2);
+        Cluster x = Probe.led(2, 2);
         Probe.write(x, 0, 0, 4, 4);
         Probe.tick(x, 0, 1);
         x.deliverAt(0);
@@ -490,7 +473,7 @@ public final class ProtocolPromisesTest {
         P.due("9: accepted", x.deliverAt(1), 4);
         P.due("9: it is down", x.replicaOf(0, 0), 0);
         P.due("9: what it sent ahead of that stays", x.lookAt(3), 3);
-        message("9: chosen", x, 2, 5, 0, 2, 0, 2, 0);
+        P.message("9: chosen", x, 2, 5, 0, 2, 0, 2, 0);
         P.due("9: nobody is told", x.sessionOf(0, 0), 2);
         x.deliverAt(1);
         P.due("9: another learns", x.replicaOf(1, 1), 2);
@@ -500,7 +483,7 @@ public final class ProtocolPromisesTest {
     }
 
     private static void acceptedAndCrashLater() {
-        SnapCluster x = Probe.led(2, 2);
+        Cluster x = Probe.led(2, 2);
         Probe.write(x, 0, 0, 4, 4);
         Probe.write(x, 1, 0, 5, 5);
         Probe.tick(x, 0, 1);
@@ -515,7 +498,7 @@ public final class ProtocolPromisesTest {
     }
 
     private static void chosenAndAsk() {
-        SnapCluster x = Probe.led(2, 2);
+        Cluster x = Probe.led(2, 2);
         Probe.write(x, 0, 0, 2, 20);
         Probe.tick(x, 0, 1);
         Probe.deliverBut(x, 2);
@@ -524,11 +507,11 @@ public final class ProtocolPromisesTest {
         x.loseAt(1);
         x.deliverAt(0);
         x.deliverAt(0);
-        message("9: chosen", x, 1, 5, 0, 2, 0, 3, 1);
+        P.message("9: chosen", x, 1, 5, 0, 2, 0, 3, 1);
         x.deliverAt(1);
-        message("9: too far ahead", x, 1, 6, 2, 0, 0, 2);
+        P.message("9: too far ahead", x, 1, 6, 2, 0, 0, 2);
         x.deliverAt(1);
-        message("9: helped", x, 1, 5, 0, 2, 0, 2, 0);
+        P.message("9: helped", x, 1, 5, 0, 2, 0, 2, 0);
         Probe.tick(x, 2, 1);
         x.deliverAt(1);
         P.due("9: learnt", x.replicaOf(2, 1), 2);
@@ -536,7 +519,7 @@ public final class ProtocolPromisesTest {
         Probe.deliver(x);
         Probe.tick(x, 2, 2);
         x.deliverAt(0);
-        message("9: asked once more", x, 0, 5, 0, 2, 0, 3, 1);
+        P.message("9: asked once more", x, 0, 5, 0, 2, 0, 3, 1);
         x.deliverAt(0);
         P.due("9: all is known", x.replicaOf(2, 1), 3);
         Probe.tick(x, 2, 2);
@@ -546,7 +529,7 @@ public final class ProtocolPromisesTest {
     }
 
     private static void learnChangesRoles() {
-        SnapCluster x = Probe.led(2, 2);
+        Cluster x = Probe.led(2, 2);
         Probe.write(x, 0, 0, 2, 20);
         Probe.tick(x, 0, 1);
         Probe.write(x, 1, 2, 3, 30);
@@ -555,7 +538,7 @@ public final class ProtocolPromisesTest {
         x.loseAt(0);
         Probe.tick(x, 2, 4);
         P.due("9: candidate", x.replicaOf(2, 6), 1);
-        message("9: chosen", x, 1, 5, 0, 2, 0, 2, 0);
+        P.message("9: chosen", x, 1, 5, 0, 2, 0, 2, 0);
         x.deliverAt(1);
         P.due("9: a candidate follows", x.replicaOf(2, 6), 0);
         P.due("9: its promise stays", x.replicaOf(2, 4), 5);
@@ -564,7 +547,7 @@ public final class ProtocolPromisesTest {
     }
 
     private static void deny() {
-        SnapCluster x = new SnapCluster(3, 2, 2, 2);
+        Cluster x = new Cluster(3, 2, 2, 2);
         Probe.write(x, 0, 0, 1, 1);
         Probe.write(x, 1, 1, 1, 1);
         Probe.tick(x, 0, 2);
@@ -572,7 +555,7 @@ public final class ProtocolPromisesTest {
         x.deliverAt(1);
         x.deliverAt(2);
         int last = x.lookAt(3) - 1;
-        message("9: deny", x, last, 7, 2, 1, 3, 0, NONE, 0, 0, 9);
+        P.message("9: deny", x, last, 7, 2, 1, 3, 0, NONE, 0, 0, 9);
         x.doubleAt(last);
         x.deliverAt(last);
         P.due("9: a candidate follows", x.replicaOf(1, 6), 0);
@@ -584,7 +567,7 @@ public final class ProtocolPromisesTest {
     }
 
     private static void forward() {
-        SnapCluster x = Probe.led(2, 2);
+        Cluster x = Probe.led(2, 2);
         Probe.write(x, 0, 1, 2, 20);
         Probe.tick(x, 1, 2);
         x.doubleAt(0);
@@ -614,15 +597,15 @@ public final class ProtocolPromisesTest {
     }
 
     private static void beat() {
-        SnapCluster x = Probe.led(2, 2);
+        Cluster x = Probe.led(2, 2);
         Probe.write(x, 0, 0, 2, 20);
         Probe.tick(x, 0, 1);
         Probe.deliverBut(x, 2);
         Probe.tick(x, 0, 2);
         Probe.tick(x, 2, 1);
-        message("9: beat", x, 1, 10, 0, 2, 3, 2);
+        P.message("9: beat", x, 1, 10, 0, 2, 3, 2);
         x.deliverAt(1);
-        message("9: one behind asks", x, 1, 6, 2, 0, 0, 2);
+        P.message("9: one behind asks", x, 1, 6, 2, 0, 0, 2);
         P.due("9: quiet is 0", x.replicaOf(2, 12), 0);
         x.deliverAt(0);
         P.due("9: one that is not says nothing", x.lookAt(3), 1);
@@ -632,14 +615,14 @@ public final class ProtocolPromisesTest {
         Probe.tick(x, 1, 3);
         P.due("9: campaigns", x.replicaOf(1, 7), 4);
         x.deliverAt(0);
-        message("9: a beat of a lesser ballot", x, x.lookAt(3) - 1, 7, 1, 0, 4, 0);
+        P.message("9: a beat of a lesser ballot", x, x.lookAt(3) - 1, 7, 1, 0, 4, 0);
         P.due("9: no change", x.replicaOf(1, 6) * 10 + x.replicaOf(1, 12), 10);
         beatOfGreaterBallot();
         beatOfOneBehind();
     }
 
     private static void beatOfGreaterBallot() {
-        SnapCluster x = new SnapCluster(3, 2, 2, 2);
+        Cluster x = new Cluster(3, 2, 2, 2);
         Probe.write(x, 1, 1, 1, 1);
         Probe.tick(x, 1, 3);
         Probe.lose(x);
@@ -648,7 +631,7 @@ public final class ProtocolPromisesTest {
         Probe.deliverBut(x, 1);
         Probe.tick(x, 0, 2);
         P.due("9: candidate", x.replicaOf(1, 6), 1);
-        message("9: a beat", x, 0, 10, 0, 1, 3, 1);
+        P.message("9: a beat", x, 0, 10, 0, 1, 3, 1);
         x.deliverAt(0);
         P.due("9: of a greater ballot", x.replicaOf(1, 6), 0);
         P.due("9: it is not promised", x.replicaOf(1, 4), 1);
@@ -656,16 +639,16 @@ public final class ProtocolPromisesTest {
     }
 
     private static void beatOfOneBehind() {
-        SnapCluster x = Probe.led(2, 1);
+        Cluster x = Probe.led(2, 1);
         Probe.tick(x, 0, 2);
         Probe.decideBehind(x);
-        message("9: a beat of slot 1", x, 0, 10, 0, 1, 3, 1);
+        P.message("9: a beat of slot 1", x, 0, 10, 0, 1, 3, 1);
         x.deliverAt(0);
-        message("9: is helped with slot 2", x, x.lookAt(3) - 1, 5, 1, 0, 0, 2);
+        P.message("9: is helped with slot 2", x, x.lookAt(3) - 1, 5, 1, 0, 0, 2);
     }
 
     private static void pieces() {
-        SnapCluster x = Probe.led(2, 1);
+        Cluster x = Probe.led(2, 1);
         for (int i = 0; i < 2; i++) {
             Probe.write(x, 0, 0, i, 100 + i);
             Probe.tick(x, 0, 1);
@@ -677,8 +660,8 @@ public final class ProtocolPromisesTest {
         Probe.tick(x, 2, 4);
         x.deliverAt(x.lookAt(3) - 2);
         int first = x.lookAt(3) - 2;
-        message("9: piece 0", x, first, 8, 0, 2, 0, 3, NONE, 0, 0, 76, 0);
-        message("9: piece 1", x, first + 1, 8, 0, 2, 0, 3, NONE, 0, 0, 49, 1);
+        P.message("9: piece 0", x, first, 8, 0, 2, 0, 3, NONE, 0, 0, 76, 0);
+        P.message("9: piece 1", x, first + 1, 8, 0, 2, 0, 3, NONE, 0, 0, 49, 1);
         P.due("9: it is a candidate", x.replicaOf(2, 6), 1);
         x.doubleAt(first + 1);
         x.deliverAt(first + 1);
@@ -708,7 +691,7 @@ public final class ProtocolPromisesTest {
     }
 
     private static void piecesOfLesserIndex() {
-        SnapCluster x = Probe.led(2, 1);
+        Cluster x = Probe.led(2, 1);
         Probe.decideBehind(x);
         Probe.decideBehind(x);
         Probe.tick(x, 2, 4);

@@ -23,7 +23,7 @@ public final class SessionPromisesTest {
             {10, 17, 33, 41, 9, 16, 32, 40}, {5, 4, 7, 11, 5, 4, 7, 11},
             {Integer.MIN_VALUE, Integer.MAX_VALUE, Integer.MIN_VALUE, Integer.MAX_VALUE, 3, 16, 1, 40}};
         for (int[] row : wanted) {
-            SnapCluster x = new SnapCluster(row[0], row[1], row[2], row[3]);
+            Cluster x = new Cluster(row[0], row[1], row[2], row[3]);
             P.due("1: replicas " + row[0], x.lookAt(0), row[4]);
             P.due("1: versions " + row[1], x.lookAt(1), row[5]);
             P.due("1: kept " + row[2], x.lookAt(2), row[6]);
@@ -33,7 +33,7 @@ public final class SessionPromisesTest {
     }
 
     private static void promise1AtFirst() {
-        SnapCluster x = new SnapCluster(4, 2, 2, 3);
+        Cluster x = new Cluster(4, 2, 2, 3);
         int[] first = {1, 0, 0, 0, 0, NONE, 0, 0, 0, 0, 0, NONE, 0, NONE, 0};
         int[] journal = {0, 0, 1, 0, 0, NONE};
         int[] session = {0, 0, NONE, NONE, 0, 0};
@@ -53,7 +53,7 @@ public final class SessionPromisesTest {
     }
 
     private static void promise2() {
-        SnapCluster x = Probe.led(4, 4);
+        Cluster x = Probe.led(4, 4);
         P.due("2: session -1", x.beginAt(-1, 0, false), false);
         P.due("2: session 16", x.beginAt(16, 0, false), false);
         P.due("2: replica -1", x.beginAt(0, -1, false), false);
@@ -77,7 +77,7 @@ public final class SessionPromisesTest {
         P.due("2: write set is new", x.sessionOf(15, 5), 0);
         x.giveUp(15);
         P.due("2: behind aborted", x.beginAt(15, 1, true), true);
-        SnapCluster old = Probe.led(4, 4);
+        Cluster old = Probe.led(4, 4);
         Probe.write(old, 0, 0, 1, 5);
         Probe.tick(old, 0, 1);
         Probe.deliverBut(old, 2);
@@ -88,7 +88,7 @@ public final class SessionPromisesTest {
     }
 
     private static void promise3Reads() {
-        SnapCluster x = Probe.led(4, 4);
+        Cluster x = Probe.led(4, 4);
         x.beginAt(0, 1, false);
         P.due("3: session -1", Probe.readThrows(x, -1, 0), 1);
         P.due("3: session 16", Probe.readThrows(x, 16, 0), 1);
@@ -111,7 +111,7 @@ public final class SessionPromisesTest {
     }
 
     private static void promise3Horizon() {
-        SnapCluster x = Probe.led(1, 4);
+        Cluster x = Probe.led(1, 4);
         x.beginAt(0, 0, false);
         x.writeKey(0, 3, 4);
         Probe.decide(x, 1, 15, 2);
@@ -128,7 +128,7 @@ public final class SessionPromisesTest {
     }
 
     private static void promise4() {
-        SnapCluster x = new SnapCluster(3, 1, 1, 2);
+        Cluster x = new Cluster(3, 1, 1, 2);
         P.due("4: idle", x.writeKey(0, 0, 1), false);
         x.beginAt(0, 0, false);
         P.due("4: session -1", x.writeKey(-1, 0, 1), false);
@@ -149,7 +149,7 @@ public final class SessionPromisesTest {
     }
 
     private static void promise5() {
-        SnapCluster x = new SnapCluster(3, 1, 1, 2);
+        Cluster x = new Cluster(3, 1, 1, 2);
         P.due("5: idle", x.commitIt(0), NONE);
         P.due("5: session -1", x.commitIt(-1), NONE);
         P.due("5: session 16", x.commitIt(16), NONE);
@@ -173,7 +173,7 @@ public final class SessionPromisesTest {
 
     /** A reader of what was written since its snapshot aborts, a blind writer does not. */
     private static void promise5Verdicts() {
-        SnapCluster x = Probe.led(2, 4);
+        Cluster x = Probe.led(2, 4);
         x.beginAt(0, 0, false);
         x.readKey(0, 3);
         x.writeKey(0, 4, 40);
@@ -213,7 +213,7 @@ public final class SessionPromisesTest {
     }
 
     private static void promise6() {
-        SnapCluster x = new SnapCluster(3, 1, 1, 2);
+        Cluster x = new Cluster(3, 1, 1, 2);
         P.due("6: idle", x.giveUp(0), false);
         P.due("6: session -1", x.giveUp(-1), false);
         P.due("6: session 16", x.giveUp(16), false);
@@ -232,7 +232,7 @@ public final class SessionPromisesTest {
     }
 
     private static void promise7() {
-        SnapCluster x = Probe.led(4, 4);
+        Cluster x = Probe.led(4, 4);
         P.due("7: not waiting", x.retryAt(0, 0), NONE);
         Probe.write(x, 0, 1, 2, 3);
         P.due("7: session -1", x.retryAt(-1, 0), NONE);
@@ -260,7 +260,7 @@ public final class SessionPromisesTest {
     }
 
     private static void promise7Verdicts() {
-        SnapCluster x = Probe.led(4, 4);
+        Cluster x = Probe.led(4, 4);
         x.beginAt(1, 1, false);
         x.readKey(1, 2);
         x.writeKey(1, 2, 4);
@@ -281,7 +281,7 @@ public final class SessionPromisesTest {
     }
 
     private static void promise7Full() {
-        SnapCluster x = new SnapCluster(3, 1, 1, 2);
+        Cluster x = new Cluster(3, 1, 1, 2);
         for (int s = 0; s < 9; s++) {
             Probe.write(x, s, 1, s, s);
         }

@@ -16,7 +16,7 @@ public final class StatePromisesTest {
     }
 
     private static void promise15() {
-        SnapCluster x = Probe.led(2, 3);
+        Cluster x = Probe.led(2, 3);
         for (int i = 0; i < 4; i++) {
             Probe.decide(x, i, i, i);
         }
@@ -35,7 +35,7 @@ public final class StatePromisesTest {
     }
 
     private static void promise15Roles() {
-        SnapCluster x = new SnapCluster(5, 2, 3, 2);
+        Cluster x = new Cluster(5, 2, 3, 2);
         Probe.write(x, 4, 1, 1, 1);
         Probe.tick(x, 1, 3);
         int[] candidate = {1, 0, 0, 0, 1, NONE, 1, 1, 2, 0, 1, NONE, 0, NONE, 0};
@@ -59,7 +59,7 @@ public final class StatePromisesTest {
     }
 
     private static void promise19() {
-        SnapCluster x = Probe.led(1, 1);
+        Cluster x = Probe.led(1, 1);
         Probe.decide(x, 0, 4, -5);
         Probe.decide(x, 0, 4, Integer.MIN_VALUE);
         P.due("19: latest", x.valueAt(2, 4, 3), Integer.MIN_VALUE);
@@ -78,7 +78,7 @@ public final class StatePromisesTest {
     }
 
     private static void promise20() {
-        SnapCluster x = Probe.led(4, 2);
+        Cluster x = Probe.led(4, 2);
         x.beginAt(3, 0, false);
         x.readKey(3, 15);
         x.writeKey(3, 2, 2);
@@ -106,7 +106,7 @@ public final class StatePromisesTest {
     }
 
     private static void promise21() {
-        SnapCluster x = Probe.led(4, 2);
+        Cluster x = Probe.led(4, 2);
         x.beginAt(1, 0, false);
         x.readKey(1, 0);
         x.writeKey(1, 1, 1);
@@ -130,7 +130,7 @@ public final class StatePromisesTest {
     }
 
     private static void promise22() {
-        SnapCluster x = Probe.led(4, 2);
+        Cluster x = Probe.led(4, 2);
         P.due("22: session -1", x.sessionOf(-1, 0), NONE);
         P.due("22: session 16", x.sessionOf(16, 0), NONE);
         P.due("22: what -1", x.sessionOf(0, -1), NONE);
@@ -165,7 +165,7 @@ public final class StatePromisesTest {
 
     /** What one leader alone accepted gives way to what the next one had decided. */
     private static void staleAcceptedOneIsDropped() {
-        SnapCluster x = new SnapCluster(3, 4, 4, 2);
+        Cluster x = new Cluster(3, 4, 4, 2);
         Probe.write(x, 0, 0, 1, 11);
         Probe.tick(x, 0, 2);
         x.deliverAt(0);
