@@ -126,6 +126,25 @@ final class FlightEdges {
         p.due("comes", x.deliverAt(3), 0);
     }
 
+    /** A piece of a state, and what carries a request, are doubled with all that they have. */
+    static void promise11AllThatItHas(Probe p) {
+        Cluster x = piecesFly(2);
+        for (int piece = 0; piece < 2; piece++) {
+            x.doubleAt(0);
+            p.due("bytes of piece " + piece, Probe.frame(x, 2), Probe.frame(x, 0));
+            p.message("piece " + piece, x, 2, 8, 0, 2, 0, 3, NONE, 0, 0, piece == 0 ? 76 : 49, piece);
+            x.loseAt(0);
+        }
+        x.deliverAt(0);
+        x.deliverAt(0);
+        p.due("the doubles alone came", x.replicaOf(2, 1), 3);
+        Probe.write(x, 4, 0, 1, 1);
+        x.tickOf(0);
+        x.doubleAt(0);
+        p.due("bytes of an accept", Probe.frame(x, 2), Probe.frame(x, 0));
+        p.due("its session", x.messageOf(2, 5), 4);
+    }
+
     /** The one is spoilt when it is doubled already: the other is as it was. */
     static void promise11SpoiltLater(Probe p) {
         Cluster x = threeFly();
@@ -217,6 +236,28 @@ final class FlightEdges {
         p.due("right", x.messageOf(0, 7), 0);
         p.due("its bytes", Probe.frame(x, 0), Probe.checked(Probe.bytes(165, 6, 0x01, 0, 1)));
         p.due("comes", x.deliverAt(0), 6);
+    }
+
+    /** A frame has nothing of one that flew ahead of it and is gone. */
+    static void promise18NothingOfThoseThatAreGone(Probe p) {
+        Cluster x = piecesFly(2);
+        Probe.lose(x);
+        Probe.write(x, 4, 0, 1, 1);
+        x.tickOf(0);
+        Probe.write(x, 5, 1, 2, 2);
+        Probe.tick(x, 1, 3);
+        p.come(x, 1, 1, 0);
+        p.due("a promise that tells", x.messageOf(Probe.last(x), 6), 3);
+        for (int i = 0; i < 3; i++) {
+            x.doubleAt(Probe.last(x));
+        }
+        Probe.lose(x);
+        Probe.tick(x, 2, 16);
+        p.due("asks", x.lookAt(3), 8);
+        for (int i = 0; i < 8; i++) {
+            p.due("its bytes", Probe.frame(x, i), Probe.checked(Probe.bytes(165, 6, 0x20, 0, 2)));
+            p.message("ask", x, i, 6, 2, 0, 0, 2, NONE, 0, 0, 9, NONE);
+        }
     }
 
     // Promise 18: "Bytes 8 * k .. 8 * k + 7 of FRAME i, as it is (a SPOILT one with its other bit), likewise,
@@ -459,6 +500,21 @@ final class FlightEdges {
         p.come(x, 1, 2, 1);
         p.due("promise of 0 tells", x.messageOf(Probe.find(x, 2, 0, 2), 6), 3);
         p.due("promise of 1 does not", x.messageOf(Probe.find(x, 2, 1, 2), 6), 0);
+        Cluster y = Probe.led(2, 2);
+        Probe.decideBehind(y);
+        Probe.tick(y, 2, 2);
+        p.due("ask", y.messageOf(0, 6), 0);
+        p.come(y, 6, 2, 0);
+        p.due("chosen that helps", y.messageOf(0, 0) * 10 + y.messageOf(0, 6), 50);
+        Probe.write(y, 4, 0, 1, 1);
+        y.tickOf(0);
+        p.come(y, 3, 0, 1);
+        p.due("accepted", y.messageOf(Probe.last(y), 6), 0);
+        p.come(y, 4, 1, 0);
+        p.due("chosen", y.messageOf(Probe.last(y), 6), 0);
+        Probe.tick(y, 0, 2);
+        p.due("beat", y.messageOf(Probe.last(y), 0) * 10 + y.messageOf(Probe.last(y), 6), 100);
+        p.due("piece of a state", piecesFly(2).messageOf(0, 6), 0);
     }
 
     /** "9: the number of its PIECE (NONE without one)", and 0 is one. */
@@ -536,6 +592,21 @@ final class FlightEdges {
         p.due("of none", x.lookAt(6), 0);
         x.turnTo(1, true);
         p.due("of one that is up again", x.lookAt(6), 2);
+    }
+
+    /** The one that knows most is the first of all, or the last. */
+    static void promise24GreatestIndexOfFirstAndLast(Probe p) {
+        Cluster x = Probe.led(2, 2);
+        Probe.write(x, 4, 0, 1, 1);
+        x.tickOf(0);
+        p.come(x, 3, 0, 2);
+        p.come(x, 4, 2, 0);
+        p.due("of the first", x.lookAt(6), 2);
+        p.come(x, 5, 0, 2);
+        x.turnTo(0, false);
+        p.due("of the last", x.lookAt(6), 2);
+        x.turnTo(2, false);
+        p.due("of the one between", x.lookAt(6), 1);
     }
 
     /** "7: SESSIONS that are WAITING": those alone, and up to all 16. */

@@ -467,6 +467,32 @@ final class FrameEdges {
         p.due("that of 1", proposedBy(p, 3, 4, 1), 0);
     }
 
+    /** What was told to a campaign that is over does not count in the next one. */
+    static void promise9PromiseTellsAnOlderCampaign(Probe p) {
+        Cluster x = new Cluster(5, 2, 2, 2);
+        Probe.write(x, 0, 0, 0, 0);
+        Probe.tick(x, 0, 2);
+        for (int r = 1; r < 3; r++) {
+            p.come(x, 1, 0, r);
+            p.come(x, 2, r, 0);
+        }
+        p.come(x, 3, 0, 1);
+        Probe.lose(x);
+        Probe.write(x, 3, 3, 3, 3);
+        Probe.tick(x, 3, 7);
+        p.come(x, 1, 3, 1);
+        p.come(x, 2, 1, 3);
+        p.due("two have answered", x.replicaOf(3, 8), 10);
+        Probe.lose(x);
+        Probe.tick(x, 3, 2);
+        for (int r : new int[] {2, 4}) {
+            p.come(x, 1, 3, r);
+            p.come(x, 2, r, 3);
+        }
+        p.due("leads", x.replicaOf(3, 6), 2);
+        p.due("its own is proposed", x.replicaOf(3, 11), 3);
+    }
+
     /** "of what is PROPOSED": the kept one is proposed with the ballot of the new leader. */
     static void promise9PromiseTellsAndItIsAcceptedAnew(Probe p) {
         Cluster x = prepareToOneThatAccepted();
@@ -503,7 +529,7 @@ final class FrameEdges {
         p.due("quiet stays", x.replicaOf(1, 12), 1);
     }
 
-    /** An accept for slot 2 comes when 2 knows slot 4, and keeps 1 alone: the whole state goes. */
+    /** An accept for slot 2 comes to one that knows slot 3 and keeps that alone: the whole state goes. */
     static void promise9AcceptSlotBelowWhatIsKept(Probe p) {
         Cluster x = Probe.led(2, 1);
         Probe.write(x, 4, 0, 1, 1);
@@ -531,6 +557,33 @@ final class FrameEdges {
         p.due("nothing is accepted", x.replicaOf(2, 5), NONE);
         p.due("nothing is noted", x.journalOf(2, 0), records);
         p.due("quiet stays", x.replicaOf(2, 12), 1);
+    }
+
+    /** Replica 2 has promised 5 and knows slot 1: it asks all the same. */
+    static void promise9AcceptSlotAboveNextAndBallotBelow(Probe p) {
+        Cluster x = prepareOfOneBehind();
+        p.due("promised", x.replicaOf(2, 4), 5);
+        Probe.write(x, 4, 0, 1, 1);
+        x.tickOf(0);
+        p.message("accept", x, Probe.last(x), 3, 0, 2, 3, 3, 4);
+        p.come(x, 3, 0, 2);
+        p.message("ask", x, Probe.last(x), 6, 2, 0, 0, 2);
+    }
+
+    /** Replica 1 has learnt slot 2 and promised 4: it helps the leader of 3 all the same. */
+    static void promise9AcceptSlotIsIndexAndBallotBelow(Probe p) {
+        Cluster x = Probe.led(2, 2);
+        Probe.write(x, 4, 0, 1, 1);
+        x.tickOf(0);
+        x.doubleAt(Probe.find(x, 3, 0, 1));
+        p.come(x, 3, 0, 1);
+        p.come(x, 4, 1, 0);
+        p.come(x, 5, 0, 1);
+        Probe.write(x, 5, 1, 1, 1);
+        Probe.tick(x, 1, 3);
+        p.due("promised", x.replicaOf(1, 4), 4);
+        p.come(x, 3, 0, 1);
+        p.message("help", x, Probe.last(x), 5, 1, 0, 0, 2, 4);
     }
 
     static void promise9AcceptBallotIsPromised(Probe p) {

@@ -78,6 +78,14 @@ final class JournalEdges {
         p.due("aborted for good", x.sessionOf(4, 0), 4);
     }
 
+    static void promise13HomeOfTheFirstAndLastSession(Probe p) {
+        Cluster x = Probe.led(2, 2);
+        x.beginAt(0, 2, false);
+        x.beginAt(15, 2, false);
+        x.turnTo(2, false);
+        p.due("both are aborted", x.sessionOf(0, 0) * 10 + x.sessionOf(15, 0), 44);
+    }
+
     static void promise13HomeOfAWaitingOne(Probe p) {
         Cluster x = Probe.led(2, 2);
         Probe.write(x, 4, 1, 1, 1);
@@ -240,6 +248,231 @@ final class JournalEdges {
             p.due("horizon", x.replicaOf(1, 2), 3);
             p.due("at the horizon", x.valueAt(1, 4, 3), 3);
             p.due("below", Probe.valueThrows(x, 1, 4, 2), true);
+        }
+    }
+
+    /** Fewer than L are kept. */
+    static void promise13ReadsFewThatAreKept(Probe p) {
+        Cluster x = Probe.led(2, 4);
+        Probe.decide(x, 0, 4, 44);
+        for (int i = 0; i < 3; i++) {
+            x.turnTo(1, false);
+            x.turnTo(1, true);
+            p.due("the slot ahead of the first", x.replicaOf(1, 3), 0);
+            p.due("slot 1", x.slotOf(1, 1, 0), 15);
+            p.due("slot 0", x.slotOf(1, 0, 0), NONE);
+            p.due("index and horizon", x.replicaOf(1, 1) * 10 + x.replicaOf(1, 2), 20);
+            p.due("value", x.valueAt(1, 4, 2), 44);
+            p.due("seq and verdict", x.knownOf(1, 0, false) * 10 + x.knownOf(1, 0, true), 11);
+        }
+    }
+
+    /** Numbers of one byte and of two are read again. */
+    static void promise13ReadsNumbersAtTheLimitOfAByte(Probe p) {
+        for (int r = 1; r < 4; r++) {
+            Cluster x = new Cluster(7, 2, 2, 2);
+            Probe.write(x, r, r, 1, 1);
+            Probe.tick(x, r, r + 2 + 2 * 18);
+            x.turnTo(r, false);
+            x.turnTo(r, true);
+            p.due("what is promised", x.replicaOf(r, 4), 126 + r);
+        }
+    }
+
+    /** The same numbers ahead of a slot and a request. */
+    static void promise13ReadsBallotsAtTheLimitOfAByte(Probe p) {
+        for (int r = 1; r < 4; r++) {
+            Cluster x = new Cluster(7, 2, 2, 2);
+            Probe.write(x, r, r, 1, 1);
+            Probe.tick(x, r, r + 2 + 2 * 18);
+            for (int q = 4; q < 7; q++) {
+                p.come(x, 1, r, q);
+                p.come(x, 2, q, r);
+            }
+            x.turnTo(r, false);
+            x.turnTo(r, true);
+            p.due("what is promised", x.replicaOf(r, 4), 126 + r);
+            p.due("what is accepted", x.replicaOf(r, 5), 126 + r);
+        }
+    }
+
+    private static final int[] VALUES = {LEAST, MOST, -1, 0x01020304, 256, 65536};
+
+    /** Session 4 reads keys 0, 7, 8 and 15, and writes keys 0, 3, 6 .. 15. */
+    private static void writeValues(Cluster x) {
+        x.beginAt(4, 0, false);
+        for (int key : new int[] {0, 7, 8, 15}) {
+            x.readKey(4, key);
+        }
+        for (int i = 0; i < 6; i++) {
+            x.writeKey(4, 3 * i, VALUES[i]);
+        }
+        x.commitIt(4);
+        x.tickOf(0);
+    }
+
+    private static void values(Probe p, Cluster x, int replica, int index) {
+        for (int i = 0; i < 6; i++) {
+            p.due("key " + 3 * i, x.valueAt(replica, 3 * i, index), VALUES[i]);
+        }
+    }
+
+    /** All bytes of a value and of both sets are read again from what was learnt. */
+    static void promise13ReadsAllBytesOfWhatIsLearnt(Probe p) {
+        Cluster x = Probe.led(2, 2);
+        writeValues(x);
+        Probe.deliver(x);
+        x.turnTo(1, false);
+        x.turnTo(1, true);
+        values(p, x, 1, 2);
+        int[] wanted = {4, 1, 1, 0x8181, 0x9249};
+        for (int what = 0; what < 5; what++) {
+            p.due("slotOf " + what, x.slotOf(1, 2, what), wanted[what]);
+        }
+    }
+
+    /** And from what is accepted: it is told and decided with them. */
+    static void promise13ReadsAllBytesOfWhatIsAccepted(Probe p) {
+        Cluster x = Probe.led(2, 2);
+        writeValues(x);
+        p.come(x, 3, 0, 1);
+        x.turnTo(0, false);
+        x.turnTo(1, false);
+        x.turnTo(1, true);
+        Probe.lose(x);
+        Probe.write(x, 5, 2, 1, 1);
+        Probe.tick(x, 2, 4);
+        Probe.deliver(x);
+        values(p, x, 2, 2);
+        p.due("decided", x.slotOf(2, 2, 0) * 10 + x.replicaOf(2, 1), 43);
+        p.due("sets", x.slotOf(2, 2, 3) * 0x10000L + x.slotOf(2, 2, 4), 0x81819249L);
+    }
+
+    /** And from a state that came in pieces. */
+    static void promise13ReadsAllBytesOfAState(Probe p) {
+        Cluster x = Probe.led(2, 1);
+        writeValues(x);
+        Probe.deliverBut(x, 2);
+        Probe.decideBehind(x);
+        Probe.tick(x, 2, 2);
+        Probe.deliver(x);
+        p.due("a state came", x.replicaOf(2, 2), 3);
+        values(p, x, 2, 3);
+        x.turnTo(2, false);
+        x.turnTo(2, true);
+        values(p, x, 2, 3);
+    }
+
+    /** And from a checkpoint, its state and the values of older indices. */
+    static void promise13ReadsAllBytesOfACheckpoint(Probe p) {
+        Cluster x = Probe.led(2, 1);
+        writeValues(x);
+        Probe.deliver(x);
+        Probe.write(x, 5, 0, 1, 1);
+        x.tickOf(0);
+        Probe.deliver(x);
+        acceptUntil(x, 1, 48);
+        p.due("generation", x.journalOf(1, 2), 2);
+        x.turnTo(1, false);
+        x.turnTo(1, true);
+        p.due("index and horizon", x.replicaOf(1, 1) * 10 + x.replicaOf(1, 2), 31);
+        values(p, x, 1, 3);
+        values(p, x, 1, 2);
+        p.due("key 15 at the horizon", x.valueAt(1, 15, 1), 1);
+        p.due("key 0 at the horizon", x.valueAt(1, 0, 1), 0);
+    }
+
+    /** Index 17 is the older one, whose values were written long after those of index 0. */
+    static void promise13ReadsOlderValuesOfACheckpoint(Probe p) {
+        Cluster x = Probe.led(1, 1);
+        for (int i = 2; i < 19; i++) {
+            Probe.decide(x, 5, 5, i);
+        }
+        acceptUntil(x, 1, 48);
+        p.due("generation", x.journalOf(1, 2), 2);
+        x.turnTo(1, false);
+        x.turnTo(1, true);
+        p.due("index and horizon", x.replicaOf(1, 1) * 100 + x.replicaOf(1, 2), 1817);
+        p.due("values", x.valueAt(1, 5, 17) * 100 + x.valueAt(1, 5, 18), 1718);
+        p.due("an older key", x.valueAt(1, 15, 17), 1);
+    }
+
+    /** All indices from the horizon on, of which the first have values of 0. */
+    static void promise13ReadsAllIndices(Probe p) {
+        Cluster x = Probe.led(16, 1);
+        for (int i = 2; i < 19; i++) {
+            Probe.decide(x, 5, i == 17 ? 0 : 5, i);
+        }
+        x.turnTo(1, false);
+        x.turnTo(1, true);
+        p.due("index and horizon", x.replicaOf(1, 1) * 10 + x.replicaOf(1, 2), 182);
+        for (int i = 2; i < 19; i++) {
+            p.due("key 5 at " + i, x.valueAt(1, 5, i), i == 17 ? 16 : i);
+            p.due("key 0 at " + i, x.valueAt(1, 0, i), i < 17 ? 0 : 17);
+        }
+    }
+
+    /** "4 and a STATE: .. nothing is ACCEPTED": what was accepted ahead of it is so no more. */
+    static void promise13ReadsAStateBehindWhatIsAccepted(Probe p) {
+        Cluster x = Probe.led(2, 1);
+        Probe.write(x, 4, 0, 1, 1);
+        x.tickOf(0);
+        p.come(x, 3, 0, 2);
+        Probe.deliverBut(x, 2);
+        Probe.decideBehind(x);
+        p.due("accepted", x.replicaOf(2, 5), 3);
+        Probe.tick(x, 2, 2);
+        Probe.deliver(x);
+        p.due("a state came", x.replicaOf(2, 2), 3);
+        x.turnTo(2, false);
+        x.turnTo(2, true);
+        p.due("nothing is accepted", x.replicaOf(2, 5), NONE);
+        p.due("index", x.replicaOf(2, 1), 3);
+    }
+
+    /** "3 and a REQUEST: .. nothing is ACCEPTED" */
+    static void promise13ReadsWhatIsLearntBehindWhatIsAccepted(Probe p) {
+        Cluster x = Probe.led(2, 1);
+        Probe.decide(x, 4, 4, 4);
+        x.turnTo(1, false);
+        x.turnTo(1, true);
+        p.due("nothing is accepted", x.replicaOf(1, 5), NONE);
+        p.due("promised", x.replicaOf(1, 4), 3);
+    }
+
+    /** Where there is no index nothing is written, also behind a reading of the journal. */
+    static void promise13ReadsWhatIsWritten(Probe p) {
+        Cluster x = Probe.led(8, 1);
+        Probe.decideBehind(x);
+        Probe.decideBehind(x);
+        x.turnTo(0, false);
+        x.turnTo(0, true);
+        Probe.tick(x, 2, 2);
+        p.come(x, 6, 2, 0);
+        byte[] last = Probe.frame(x, Probe.last(x));
+        byte[] written = Probe.bytes(0, 128, 0, 128, 128, 0, 0, 0, 0, 0, 0, 0, 0, 0, 0, 0);
+        p.due("written", Arrays.copyOfRange(last, last.length - 20, last.length - 4), written);
+    }
+
+    /** One that came up from a checkpoint decides by what was written ahead of that. */
+    static void promise13ReadsWhatIsWrittenFromACheckpoint(Probe p) {
+        for (int key = 1; key < 3; key++) {
+            Cluster x = Probe.led(4, 1);
+            x.beginAt(6, 0, false);
+            x.readKey(6, key);
+            x.writeKey(6, 9, 9);
+            Probe.decide(x, 5, 1, 1);
+            acceptUntil(x, 1, 48);
+            p.due("generation", x.journalOf(1, 2), 2);
+            x.turnTo(1, false);
+            x.turnTo(1, true);
+            Probe.deliver(x);
+            p.due("decided", x.replicaOf(1, 1), 3);
+            x.commitIt(6);
+            x.tickOf(0);
+            Probe.deliver(x);
+            p.due("verdict of one that read key " + key, x.knownOf(1, 6, true), key == 1 ? 2 : 1);
+            p.due("as with the others", x.knownOf(0, 6, true), key == 1 ? 2 : 1);
         }
     }
 
@@ -501,15 +734,19 @@ final class JournalEdges {
 
     private static Cluster withRecords(int versions, int replica, int count) {
         Cluster x = Probe.led(versions, 1);
+        acceptUntil(x, replica, count);
+        return x;
+    }
+
+    /** Leader 0 proposes, and its accept comes to a replica until that has so many records; both fly still. */
+    private static void acceptUntil(Cluster x, int replica, int count) {
         Probe.write(x, 4, 0, 1, 1);
         x.tickOf(0);
-        int frame = replica - 1;
         for (int i = x.journalOf(replica, 0); i < count; i++) {
-            x.doubleAt(frame);
+            x.doubleAt(replica - 1);
             x.deliverAt(2);
             x.loseAt(2);
         }
-        return x;
     }
 
     /** Replica 0 has campaigned so often that nobody heard of. */
@@ -586,6 +823,25 @@ final class JournalEdges {
         p.due("nothing is accepted", x.replicaOf(1, 5), NONE);
     }
 
+    /** A leader that learns: it tells nobody, and does not propose the next one. */
+    static void promise14CrashInCheckpointOfLeader(Probe p) {
+        Cluster x = campaigned(2, 45);
+        Probe.write(x, 5, 0, 2, 2);
+        Probe.tick(x, 0, 2);
+        p.come(x, 1, 0, 1);
+        p.come(x, 2, 1, 0);
+        p.come(x, 3, 0, 1);
+        p.due("records", x.journalOf(0, 0), 47);
+        int blocks = x.journalOf(0, 4);
+        x.crashAfter(0, 1);
+        p.come(x, 4, 1, 0);
+        p.message("chosen is the last that was sent", x, Probe.last(x), 5, 0, 2, 0, 1, 4);
+        p.due("nobody is told", x.sessionOf(4, 0), 2);
+        crashed(p, x, 0, blocks + 1, 4);
+        p.due("learnt", x.replicaOf(0, 1), 1);
+        p.due("nothing is accepted", x.replicaOf(0, 5), NONE);
+    }
+
     /** The note of the state lies in two blocks. */
     static void promise14CrashInCheckpointOfState(Probe p) {
         Cluster x = stateFlies(p);
@@ -640,13 +896,7 @@ final class JournalEdges {
         for (int i = 0; i < 6; i++) {
             Probe.decide(x, 5, 5, i);
         }
-        Probe.write(x, 4, 0, 1, 1);
-        x.tickOf(0);
-        for (int i = x.journalOf(1, 0); i < 47; i++) {
-            x.doubleAt(0);
-            x.deliverAt(2);
-            x.loseAt(2);
-        }
+        acceptUntil(x, 1, 47);
         return x;
     }
 
@@ -873,16 +1123,34 @@ final class JournalEdges {
             for (int i = 0; i < 4; i++) {
                 Probe.decide(x, 5, 5, i);
             }
-            Probe.write(x, 4, 0, 1, 1);
-            x.tickOf(0);
-            for (int i = x.journalOf(1, 0); i < 48; i++) {
-                x.doubleAt(0);
-                x.deliverAt(2);
-                x.loseAt(2);
-            }
+            acceptUntil(x, 1, 48);
             p.due("records with V " + versions, x.journalOf(1, 0), 3 + versions);
             p.due("bytes with V " + versions, x.journalOf(1, 1), 104 + 2 * versions + 72 * versions + 20 + 8);
         }
+    }
+
+    /** The state, the values of each older index, the later one first, what is accepted, what is promised. */
+    static void promise16CheckpointInItsOrder(Probe p) {
+        Cluster x = Probe.led(2, 1);
+        Probe.decide(x, 0, 0, 10);
+        Probe.decide(x, 0, 1, 20);
+        acceptUntil(x, 1, 48);
+        byte[] values = new byte[64];
+        values[63] = 1;
+        byte[] older = Probe.inRecord(Probe.join(Probe.bytes(5), values));
+        values[3] = 10;
+        byte[] later = Probe.inRecord(Probe.join(Probe.bytes(5), values));
+        values[7] = 20;
+        byte[] known = new byte[32];
+        known[0] = 2;
+        known[1] = 1;
+        known[30] = 1;
+        known[31] = 1;
+        byte[] state = Probe.inRecord(Probe.join(Probe.bytes(4, 3), values, known, Probe.bytes(0, 2, 0, 1)));
+        byte[] accepted = Probe.inRecord(Probe.bytes(2, 3, 4, 4, 1, 3, 0, 0, 0, 2, 0, 0, 0, 1));
+        byte[] all = Probe.join(state, later, older, accepted, Probe.inRecord(Probe.bytes(1, 3)));
+        p.due("bytes", x.journalOf(1, 1), all.length);
+        p.due("the other half", Probe.disk(x, 1, 33, 0, 512), Arrays.copyOf(all, 512));
     }
 
     /** "and two bytes 0 behind them": where the records take 512 bytes these have a block of their own. */
@@ -899,13 +1167,7 @@ final class JournalEdges {
         for (int i = 0; i < 4; i++) {
             Probe.decide(x, 5, 5, i);
         }
-        Probe.write(x, 4, 0, 1, 1);
-        x.tickOf(0);
-        for (int i = x.journalOf(1, 0); i < 47; i++) {
-            x.doubleAt(0);
-            x.deliverAt(2);
-            x.loseAt(2);
-        }
+        acceptUntil(x, 1, 47);
         int before = x.journalOf(1, 4);
         x.deliverAt(0);
         p.due("bytes", x.journalOf(1, 1), bytes);

@@ -204,6 +204,30 @@ final class PieceEdges {
         p.due("index and horizon", x.replicaOf(2, 1) * 10 + x.replicaOf(2, 2), 64);
     }
 
+    /** The state tells what is written at the last V indices: the oldest of these decides here as there. */
+    static void promise9StateTellsWhatIsWritten(Probe p) {
+        for (int key = 3; key < 7; key++) {
+            Cluster x = Probe.led(3, 1);
+            x.beginAt(4, 0, false);
+            x.readKey(4, key);
+            x.writeKey(4, 9, 9);
+            for (int i = 3; i < 6; i++) {
+                Probe.write(x, 5, 0, i, i);
+                x.tickOf(0);
+                Probe.deliverBut(x, 2);
+            }
+            sendPieces(x);
+            Probe.deliver(x);
+            p.due("a state came", x.replicaOf(2, 1) * 10 + x.replicaOf(2, 2), 44);
+            x.commitIt(4);
+            x.tickOf(0);
+            Probe.deliver(x);
+            p.due("learnt behind it", x.replicaOf(2, 1) * 10 + x.replicaOf(2, 2), 54);
+            p.due("verdict of one that read key " + key, x.knownOf(2, 4, true), key < 6 ? 2 : 1);
+            p.due("as with the others", x.knownOf(1, 4, true), key < 6 ? 2 : 1);
+        }
+    }
+
     static void promise9StateToCandidate(Probe p) {
         Cluster x = Probe.led(2, 1);
         Probe.decideBehind(x);

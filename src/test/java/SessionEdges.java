@@ -121,6 +121,15 @@ final class SessionEdges {
         }
     }
 
+    /** "An object is used for at most 512 calls": the last of them answers as any other. */
+    static void promise1LastOfAllCalls(Probe p) {
+        Cluster x = new Cluster(9, 16, 32, 40);
+        for (int i = 0; i < 511; i++) {
+            x.tickOf(i % 9);
+        }
+        p.due("9 replicas, 57 or 56 ticks each, and each has asked once", x.lookAt(3), 9);
+    }
+
     // Promise 2: "True; false if there is no such SESSION or REPLICA, the REPLICA is DOWN, or the SESSION
     // is ACTIVE or WAITING."
 
@@ -249,6 +258,7 @@ final class SessionEdges {
     static void promise3NoSuchSession(Probe p) {
         for (int session : NO_SESSIONS) {
             p.due("session " + session, Probe.readThrows(Probe.led(2, 2), session, 0), 1);
+            p.unchanged("session " + session, () -> Probe.led(2, 2), x -> Probe.readThrows(x, session, 0));
         }
     }
 
@@ -441,6 +451,20 @@ final class SessionEdges {
         p.due("value", x.valueAt(0, 3, 2), 30);
     }
 
+    /** What it writes in its next transaction is not in the request that is decided already. */
+    static void promise4DecidedOneKeepsItsValues(Probe p) {
+        Cluster x = Probe.led(2, 2);
+        Probe.write(x, 0, 0, 3, 30);
+        x.tickOf(0);
+        Probe.deliverBut(x, 2);
+        x.beginAt(0, 0, false);
+        x.writeKey(0, 3, 31);
+        Probe.tick(x, 0, 2);
+        Probe.deliver(x);
+        p.due("learnt later", x.replicaOf(2, 1), 2);
+        p.due("value", x.valueAt(2, 3, 2), 30);
+    }
+
     static void promise4OnlyReads(Probe p) {
         Cluster x = new Cluster(3, 1, 1, 2);
         x.beginAt(0, 0, true);
@@ -588,9 +612,9 @@ final class SessionEdges {
         }
     }
 
-    /** Session 0 begins at index 2 and reads a key; keys 3, 4, 5 are written at 2, 3 and 4. */
+    /** Session 0 begins at index 2 and reads a key; keys 3, 4, 5 are written at 2, 3 and 4, all of them known. */
     private static int verdictOfReader(int key) {
-        Cluster x = Probe.led(2, 1);
+        Cluster x = Probe.led(4, 1);
         Probe.decide(x, 1, 3, 1);
         x.beginAt(0, 0, false);
         x.readKey(0, key);
@@ -655,6 +679,29 @@ final class SessionEdges {
         Probe.deliver(x);
         p.due("committed", x.sessionOf(0, 0), 3);
         p.due("value", x.valueAt(0, 3, 4), 0);
+    }
+
+    /** The values stay, key 0 too, and nothing is written at its index: a reader of all that commits. */
+    static void promise5AbortedOneWritesNothing(Probe p) {
+        Cluster x = Probe.led(4, 1);
+        Probe.decide(x, 2, 0, 7);
+        x.beginAt(1, 0, false);
+        x.readKey(1, 8);
+        x.writeKey(1, 0, 70);
+        x.writeKey(1, 3, 30);
+        Probe.decide(x, 2, 8, 80);
+        x.beginAt(0, 0, false);
+        for (int key = 0; key < 16; key++) {
+            x.readKey(0, key);
+        }
+        x.writeKey(0, 9, 90);
+        x.commitIt(1);
+        x.commitIt(0);
+        x.tickOf(0);
+        Probe.deliver(x);
+        p.due("aborted", x.sessionOf(1, 0), 4);
+        p.due("values", x.valueAt(1, 0, 4) * 100 + x.valueAt(1, 3, 4), 700);
+        p.due("committed", x.sessionOf(0, 0), 3);
     }
 
     /** It is what was read that counts: two that only write the same key both commit. */

@@ -80,10 +80,11 @@ final class StateEdges {
     static void promise15BaseUpToL(Probe p) {
         for (int kept : new int[] {1, 2, 4}) {
             Cluster x = Probe.led(1, kept);
+            p.due("one is kept", x.replicaOf(1, 3), 0);
             for (int i = 1; i < kept; i++) {
                 Probe.decide(x, 4, 4, i);
+                p.due("more are kept", x.replicaOf(1, 3), 0);
             }
-            p.due("the slot ahead of the first", x.replicaOf(1, 3), 0);
             Probe.decide(x, 4, 4, 9);
             p.due("one more", x.replicaOf(1, 3), 1);
         }

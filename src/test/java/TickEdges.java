@@ -174,6 +174,19 @@ final class TickEdges {
         p.message("ballot 3 of 3 is of 0", x, 0, 9, 1, 0, 0, 0, 4);
     }
 
+    /** Ballot 1 is the least that is of one: of replica 1. */
+    static void promise8ForwardsToOneOfBallotOne(Probe p) {
+        Cluster x = new Cluster(3, 1, 1, 2);
+        Probe.write(x, 4, 1, 1, 1);
+        Probe.tick(x, 1, 3);
+        p.come(x, 1, 1, 0);
+        Probe.lose(x);
+        p.due("seen", x.replicaOf(0, 9), 1);
+        Probe.write(x, 5, 0, 1, 1);
+        p.due("forwards", x.tickOf(0), 1);
+        p.message("to replica 1", x, 0, 9, 0, 1, 0, 0, 5);
+    }
+
     // "A CANDIDATE: if QUIET is T or more, it CAMPAIGNS."
 
     private static Cluster candidate() {
@@ -189,6 +202,18 @@ final class TickEdges {
         p.due("ballot", x.replicaOf(1, 7), 1);
         p.due("quiet", x.replicaOf(1, 12), 2);
         p.due("sent", x.lookAt(4), 2);
+    }
+
+    /** A candidate forwards nothing, though it has seen the ballot of another one. */
+    static void promise8CandidateBelowPatienceHasSeenAnother(Probe p) {
+        Cluster x = Probe.led(2, 2);
+        Probe.write(x, 4, 1, 1, 1);
+        Probe.tick(x, 1, 3);
+        Probe.lose(x);
+        p.due("seen", x.replicaOf(1, 9), 3);
+        p.due("candidate", x.replicaOf(1, 6), 1);
+        p.due("sends nothing", x.tickOf(1), 0);
+        p.due("quiet", x.replicaOf(1, 12), 1);
     }
 
     /** It is T then, without its number. */
