@@ -18,6 +18,10 @@ final class Cluster {
         return x;
     }
 
+    int callsLeft() {
+        return MOST_CALLS - calls;
+    }
+
     boolean beginAt(int session, int replica, boolean onlyReads) {
         return counted().beginAt(session, replica, onlyReads);
     }
